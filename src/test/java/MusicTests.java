@@ -83,6 +83,8 @@ public final class MusicTests {
         due.is(17, "least(3, 1)", x.least(3, 1), 3);
         due.is(17, "least(5, 0)", x.least(5, 0), 0);
         due.is(17, "least(5, 1)", x.least(5, 1), 0);
+        due.is(17, "least(3, 0) again", x.least(3, 0), 13);
+        due.is(17, "least(5, 0) again", x.least(5, 0), 0);
         x.leads(9);
         x.call(0, 2);
         due.is(17, "least(5, 0), whatever is called", x.least(5, 0), 0);
@@ -127,7 +129,9 @@ public final class MusicTests {
         due.is(17, "least(5, 1) without changes", x.least(5, 1), -5);
         Due.read(x, "n6;mx");
         due.is(17, "no calls there: least(2, 0)", x.least(2, 0), 0);
+        due.is(17, "no calls there: least(2, 1)", x.least(2, 1), 0);
         due.is(17, "no calls there: least(3, 0)", x.least(3, 0), -5);
+        due.is(17, "no calls there: least(3, 1)", x.least(3, 1), -5);
         x.calls(2, 63);
         due.is(17, "a single alone: least(1, 0)", x.least(1, 0), 2);
         due.is(17, "a single alone: least(1, 1)", x.least(1, 1), 1);

@@ -165,11 +165,13 @@ public final class TapeTests {
         due.is(32, "peek(0, 0)", x.peek(0, 0), NO);
         for (int sort = 0; sort <= 4; sort++) {
             due.is(32, "tape of sort " + sort, x.tape(sort, sort, 60), 1);
+            x.item(sort, 0, 1);
             x.item(sort, 59, 1);
             due.is(32, "tape(.., .., 61)", x.tape(sort, sort, 61), -2);
             due.is(32, "tape(.., .., -1)", x.tape(sort, sort, -1), -14);
             due.is(32, "a refused tape changes nothing", x.peek(sort, 59), 1);
             due.is(32, "tape again", x.tape(sort, sort, 60), 1);
+            due.is(32, "all 0", x.peek(sort, 0), 0);
             due.is(32, "all 0", x.peek(sort, 59), 0);
             due.is(32, "no place 60", x.peek(sort, 60), NO);
         }

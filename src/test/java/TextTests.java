@@ -13,6 +13,7 @@ public final class TextTests {
         theClauseOfBells();
         theClauseOfCalls();
         fullText();
+        textAfterText();
         due.end("TextTests");
     }
 
@@ -188,5 +189,18 @@ public final class TextTests {
         String early = words + ";b121;" + words.substring(0, 46);
         due.is(9, "its length", early.length(), 100);
         fault(early, 100);
+    }
+
+    /** Nothing of a text is left for the next one, with a fault or without. */
+    private static void textAfterText() {
+        BellTouches x = new BellTouches();
+        for (int i = 0; i < 12; i++) {
+            due.is(9, "read of two clauses", Due.read(x, "csbpsbpsbpsbp;bx"), 2);
+            due.is(9, "of(3, 10)", x.of(3, 10), 2);
+            due.is(9, "of(1, 0)", x.of(1, 0), 0);
+            due.is(9, "read of a fault", Due.read(x, "cpppppppp;b"), -21);
+            due.is(9, "read of one clause", Due.read(x, "b1256"), 1);
+            due.is(9, "of(1, 0)", x.of(1, 0), 51);
+        }
     }
 }

@@ -9,6 +9,7 @@ public final class TouchTests {
         told();
         roundAndFalse();
         falseAtTheEnd();
+        longest();
         courses();
         rowsAsked();
         same();
@@ -87,6 +88,20 @@ public final class TouchTests {
         due.is(14, "same(3)", x.same(3), 1);
         Due.read(x, "n4;mx14.14x");
         tells(x, 4, 4, 1, 4, 4, 3, 0, 1);
+    }
+
+    private static void longest() {
+        BellTouches x = new BellTouches();
+        Due.read(x, "n8;mx18x18x18x18x18x18x18x12;b14;cbpppppbppppp");
+        tells(x, 8, 16, 12, 192, -5, -5, 0, 7);
+        due.is(14, "same(192)", x.same(192), 192);
+        due.is(14, "same(193)", x.same(193), -1);
+        x.call(6, 0);
+        tells(x, 8, 16, 12, 192, -5, 128, 0, 7);
+        due.is(14, "same(128), seven plain leads behind a bob", x.same(128), 16);
+        due.is(14, "same(192)", x.same(192), 80);
+        Due.read(x, "n4;m14x;cpppppppppppp");
+        tells(x, 4, 2, 12, 24, 8, 8, 0, 4);
     }
 
     private static void courses() {
