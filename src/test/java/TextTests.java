@@ -196,7 +196,7 @@ public final class TextTests {
         BellTouches x = new BellTouches();
         for (int i = 0; i < 12; i++) {
             due.is(9, "read of two clauses", Due.read(x, "csbpsbpsbpsbp;bx"), 2);
-            due.is(9, "of(3, 10)", x.of(3, 10), 2);
+            due.is(9, "of(3, 10)", x.of(3, 10), 1);
             due.is(9, "of(1, 0)", x.of(1, 0), 0);
             due.is(9, "read of a fault", Due.read(x, "cpppppppp;b"), -21);
             due.is(9, "read of one clause", Due.read(x, "b1256"), 1);
