@@ -19,6 +19,29 @@ final class Due {
         }
     }
 
+    /** Two looks at an object, of which the second may show no change. */
+    void unchanged(int promise, String call, String before, String behind) {
+        asked++;
+        if (!before.equals(behind)) {
+            wrong++;
+            int place = 0;
+            while (place < before.length() && place < behind.length() && before.charAt(place) == behind.charAt(place)) {
+                place++;
+            }
+            int line = before.lastIndexOf('\n', place - 1) + 1;
+            System.out.println("promise " + promise + ": " + call + " changes something, seen from "
+                    + before.substring(line, Math.min(line + 6, before.length())) + " at sign " + (place - line));
+        }
+    }
+
+    void text(int promise, String call, String got, String want) {
+        asked++;
+        if (!got.equals(want)) {
+            wrong++;
+            System.out.println("promise " + promise + ": " + call + " is " + got + ", due is " + want);
+        }
+    }
+
     void end(String test) {
         System.out.println(test + ": " + asked + " answers, " + wrong + " not as due");
         if (wrong != 0 || asked == 0) {
@@ -27,7 +50,7 @@ final class Due {
     }
 
     /** Feeds a text and reads it. */
-    static int read(BellTouches x, String text) {
+    static int read(Counted x, String text) {
         for (int i = 0; i < text.length(); i++) {
             x.feed(text.charAt(i));
         }
@@ -35,7 +58,7 @@ final class Due {
     }
 
     /** A ROW as a text of its BELLS. */
-    static String row(BellTouches x, int row) {
+    static String row(Counted x, int row) {
         StringBuilder bells = new StringBuilder();
         for (int place = 1; place <= x.told(0); place++) {
             bells.append(x.at(row, place));
@@ -44,7 +67,7 @@ final class Due {
     }
 
     /** All that can be asked of an object, as one text: as before a refused call, so behind it. */
-    static String all(BellTouches x) {
+    static String all(Counted x) {
         StringBuilder all = new StringBuilder();
         for (int what = 0; what <= 7; what++) {
             all.append(x.told(what)).append(' ');

@@ -26,7 +26,7 @@ public final class MethodTests {
     }
 
     private static void newObject() {
-        BellTouches x = new BellTouches();
+        Counted x = new Counted();
         int[] told = {6, 0, 1, 0, -5, -5, 0, 0};
         for (int what = 0; what < told.length; what++) {
             due.is(1, "told(" + what + ")", x.told(what), told[what]);
@@ -50,7 +50,7 @@ public final class MethodTests {
     }
 
     private static void bells() {
-        BellTouches x = new BellTouches();
+        Counted x = new Counted();
         x.change(33);
         String before = Due.all(x);
         for (int n : new int[] {3, 9, 0, -1, Integer.MAX_VALUE, Integer.MIN_VALUE}) {
@@ -65,7 +65,7 @@ public final class MethodTests {
     }
 
     private static void bellsClear() {
-        BellTouches x = new BellTouches();
+        Counted x = new Counted();
         for (int n : new int[] {6, 5}) {
             x.feed('c');
             x.change((1 << x.told(0)) - 1);
@@ -100,7 +100,7 @@ public final class MethodTests {
     }
 
     private static void change() {
-        BellTouches x = new BellTouches();
+        Counted x = new Counted();
         String before = Due.all(x);
         due.is(3, "change(-1)", x.change(-1), -2);
         due.is(3, "change(64)", x.change(64), -2);
@@ -134,7 +134,7 @@ public final class MethodTests {
     }
 
     private static void changesFull() {
-        BellTouches x = new BellTouches();
+        Counted x = new Counted();
         for (int i = 1; i <= 16; i++) {
             due.is(3, "change(0)", x.change(0), i);
         }
@@ -146,7 +146,7 @@ public final class MethodTests {
     }
 
     private static void calls() {
-        BellTouches x = new BellTouches();
+        Counted x = new Counted();
         x.change(0);
         due.is(4, "calls(1, 63)", x.calls(1, 63), 0);
         due.is(4, "calls(2, -1)", x.calls(2, -1), 0);
@@ -174,7 +174,7 @@ public final class MethodTests {
     }
 
     private static void call() {
-        BellTouches x = new BellTouches();
+        Counted x = new Counted();
         String before = Due.all(x);
         due.is(5, "call(-1, 0)", x.call(-1, 0), -1);
         due.is(5, "call(12, 3)", x.call(12, 3), -1);
@@ -196,7 +196,7 @@ public final class MethodTests {
     }
 
     private static void leads() {
-        BellTouches x = new BellTouches();
+        Counted x = new Counted();
         due.is(6, "leads(0)", x.leads(0), -2);
         due.is(6, "leads(13)", x.leads(13), -2);
         due.is(6, "leads(-1)", x.leads(-1), -2);
@@ -219,7 +219,7 @@ public final class MethodTests {
     }
 
     private static void pattern() {
-        BellTouches x = new BellTouches();
+        Counted x = new Counted();
         x.change(0);
         due.is(7, "pattern(0, 9)", x.pattern(0, 9), -1);
         due.is(7, "pattern(9, 1)", x.pattern(9, 1), -1);
@@ -242,7 +242,7 @@ public final class MethodTests {
     }
 
     private static void feed() {
-        BellTouches x = new BellTouches();
+        Counted x = new Counted();
         due.is(8, "feed(-1)", x.feed(-1), -2);
         due.is(8, "feed(128)", x.feed(128), -2);
         due.is(8, "count(3)", x.count(3), 0);

@@ -17,7 +17,7 @@ public final class ModelTests {
         "n8;m345678.145678.123678.123478.123458.123456;b1234;s12"};
 
     private final Random chance;
-    private final BellTouches x = new BellTouches();
+    private final Counted x = new Counted();
     private final Model model = new Model();
     private final int run;
     private int n = 6;

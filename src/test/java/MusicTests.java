@@ -16,7 +16,7 @@ public final class MusicTests {
     }
 
     private static void music() {
-        BellTouches x = new BellTouches();
+        Counted x = new Counted();
         for (int what = 0; what < 4; what++) {
             due.is(16, "music(" + what + ") without changes", x.music(what), 0);
         }
@@ -38,7 +38,7 @@ public final class MusicTests {
     }
 
     private static void musicOfPatterns() {
-        BellTouches x = new BellTouches();
+        Counted x = new Counted();
         Due.read(x, "n4;mx14x14x14x12;cppp");
         x.pattern(1, 1);
         due.is(16, "music(2), 1 leads", x.music(2), 6);
@@ -55,7 +55,7 @@ public final class MusicTests {
     }
 
     private static void musicOfEight() {
-        BellTouches x = new BellTouches();
+        Counted x = new Counted();
         Due.read(x, "n8;m345678.125678.123478");
         due.holds("16: row 2", Due.row(x, 2).equals("21435678"));
         due.is(16, "music(0)", x.music(0), 2);
@@ -69,7 +69,7 @@ public final class MusicTests {
     }
 
     private static void least() {
-        BellTouches x = new BellTouches();
+        Counted x = new Counted();
         Due.read(x, MINOR);
         due.is(17, "least(0, 0)", x.least(0, 0), -2);
         due.is(17, "least(6, 2)", x.least(6, 2), -2);
@@ -93,7 +93,7 @@ public final class MusicTests {
     }
 
     private static void leastOfSeveral() {
-        BellTouches x = new BellTouches();
+        Counted x = new Counted();
         Due.read(x, "n4;mx14;b12;s1234");
         due.is(17, "least(4, 0), a hunt", x.least(4, 0), 0);
         due.is(17, "least(2, 0), two bobs", x.least(2, 0), 4);
@@ -115,7 +115,7 @@ public final class MusicTests {
         due.is(17, "0202 is TRUE", x.told(6), 1);
     }
 
-    private static void rings(BellTouches x, int number, int leads) {
+    private static void rings(Counted x, int number, int leads) {
         x.leads(leads);
         for (int lead = leads - 1; lead >= 0; lead--, number /= 3) {
             x.call(lead, number % 3);
@@ -123,7 +123,7 @@ public final class MusicTests {
     }
 
     private static void leastOfNone() {
-        BellTouches x = new BellTouches();
+        Counted x = new Counted();
         x.calls(1, 63);
         due.is(17, "least(1, 0) without changes", x.least(1, 0), -5);
         due.is(17, "least(5, 1) without changes", x.least(5, 1), -5);
@@ -141,7 +141,7 @@ public final class MusicTests {
     }
 
     private static void still() {
-        BellTouches x = new BellTouches();
+        Counted x = new Counted();
         due.is(18, "still(1) without changes", x.still(1), 0);
         due.is(18, "still(0)", x.still(0), -1);
         due.is(18, "still(7)", x.still(7), -1);
@@ -156,7 +156,7 @@ public final class MusicTests {
     }
 
     private static void ahead() {
-        BellTouches x = new BellTouches();
+        Counted x = new Counted();
         due.is(19, "ahead(1, 2) of ROW 0", x.ahead(1, 2), 1);
         due.is(19, "ahead(2, 1) of ROW 0", x.ahead(2, 1), 0);
         due.is(19, "ahead(1, 3) of ROW 0", x.ahead(1, 3), 0);

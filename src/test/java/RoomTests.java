@@ -62,7 +62,7 @@ public final class RoomTests {
     }
 
     private static void dearestCalls() {
-        BellTouches x = new BellTouches();
+        Counted x = new Counted();
         Due.read(x, "n8;mx18x18x18x18x18x18x18x18;b12;s1234;cpppppppppppp");
         int first = x.least(5, 0);
         for (int i = 0; i < CALLS / 2; i++) {

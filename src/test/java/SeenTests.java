@@ -18,7 +18,7 @@ public final class SeenTests {
     }
 
     private static void see() {
-        BellTouches x = new BellTouches();
+        Counted x = new Counted();
         due.is(20, "see(-2, 1, 1)", x.see(-2, 1, 1), -1);
         due.is(20, "see(193, 1, 1)", x.see(193, 1, 1), -1);
         due.is(20, "see(0, 0, 1)", x.see(0, 0, 1), -1);
@@ -40,7 +40,7 @@ public final class SeenTests {
     }
 
     private static void fits() {
-        BellTouches x = new BellTouches();
+        Counted x = new Counted();
         due.is(21, "fits(0) without changes", x.fits(0), 0);
         due.is(21, "fits(1) without changes", x.fits(1), -5);
         due.is(21, "fits(-1)", x.fits(-1), -1);
@@ -69,7 +69,7 @@ public final class SeenTests {
     }
 
     private static void fitsOfCalls() {
-        BellTouches x = new BellTouches();
+        Counted x = new Counted();
         Due.read(x, MINIMUS + ";b1234;cbs");
         x.see(8, 2, 2);
         due.is(21, "fits(0), the lead is a bob", x.fits(0), 0);
@@ -84,7 +84,7 @@ public final class SeenTests {
     }
 
     private static void odds() {
-        BellTouches x = new BellTouches();
+        Counted x = new Counted();
         due.is(22, "odds(1, 1, 0), ROW 0 alone", x.odds(1, 1, 0), 1);
         due.is(22, "odds(1, 1, 1), ROW 0 alone", x.odds(1, 1, 1), 1);
         due.is(22, "odds(1, 2, 0), ROW 0 alone", x.odds(1, 2, 0), 0);
@@ -111,7 +111,7 @@ public final class SeenTests {
     }
 
     private static void mean() {
-        BellTouches x = new BellTouches();
+        Counted x = new Counted();
         due.is(23, "mean(0), ROW 0 alone", x.mean(0), 0);
         due.is(23, "mean(1), ROW 0 alone", x.mean(1), 1);
         due.is(23, "mean(-1)", x.mean(-1), Long.MIN_VALUE);
@@ -129,7 +129,7 @@ public final class SeenTests {
     }
 
     private static void event() {
-        BellTouches x = new BellTouches();
+        Counted x = new Counted();
         due.is(24, "event(-2, 0)", x.event(-2, 0), -1);
         due.is(24, "event(4, 0)", x.event(4, 0), -1);
         due.is(24, "event(0, -1)", x.event(0, -1), -1);
@@ -152,14 +152,14 @@ public final class SeenTests {
         due.is(24, "count(1)", x.count(1), 0);
     }
 
-    private static void afters(BellTouches x, int round, int falseRow, int isTrue) {
+    private static void afters(Counted x, int round, int falseRow, int isTrue) {
         due.is(25, "after(0)", x.after(0), round);
         due.is(25, "after(1)", x.after(1), falseRow);
         due.is(25, "after(2)", x.after(2), isTrue);
     }
 
     private static void after() {
-        BellTouches x = new BellTouches();
+        Counted x = new Counted();
         due.is(25, "after(-1)", x.after(-1), -1);
         due.is(25, "after(3)", x.after(3), -1);
         afters(x, -5, -5, 0);
@@ -184,7 +184,7 @@ public final class SeenTests {
     }
 
     private static void afterLeads() {
-        BellTouches x = new BellTouches();
+        Counted x = new Counted();
         Due.read(x, MINIMUS + ";b14;cp");
         x.event(1, 0);
         afters(x, 8, -5, 1);
@@ -207,7 +207,7 @@ public final class SeenTests {
     }
 
     private static void book() {
-        BellTouches x = new BellTouches();
+        Counted x = new Counted();
         due.is(26, "book(-2, 1)", x.book(-2, 1), -1);
         due.is(26, "book(193, 1)", x.book(193, 1), -1);
         due.is(26, "book(0, 0)", x.book(0, 0), -1);
@@ -224,7 +224,7 @@ public final class SeenTests {
     }
 
     private static void looked() {
-        BellTouches x = new BellTouches();
+        Counted x = new Counted();
         due.is(27, "looked(), empty", x.looked(), -5);
         x.book(0, 1);
         due.is(27, "looked()", x.looked(), -5);

@@ -18,14 +18,14 @@ public final class TapeTests {
         due.end("TapeTests");
     }
 
-    private static void fill(BellTouches x, int tape, int from, int... items) {
+    private static void fill(Counted x, int tape, int from, int... items) {
         for (int i = 0; i < items.length; i++) {
             due.is(33, "item(" + tape + ", " + (from + i) + ")", x.item(tape, from + i, items[i]), 1);
         }
     }
 
     private static void judge() {
-        BellTouches x = new BellTouches();
+        Counted x = new Counted();
         Due.read(x, "n4;mx");
         due.is(28, "judge(-1, 0, 0)", x.judge(-1, 0, 0), -1);
         due.is(28, "judge(2, 0, 0)", x.judge(2, 0, 0), -1);
@@ -56,7 +56,7 @@ public final class TapeTests {
     }
 
     private static void judgeEnds() {
-        BellTouches x = new BellTouches();
+        Counted x = new Counted();
         x.tape(5, 0, 3);
         fill(x, 5, 0, 1, 1, 2);
         due.is(28, "judge(0, 5, -1)", x.judge(0, 5, -1), 100);
@@ -75,7 +75,7 @@ public final class TapeTests {
     }
 
     private static void image() {
-        BellTouches x = new BellTouches();
+        Counted x = new Counted();
         due.is(30, "undo()", x.undo(), -3);
         due.is(29, "image()", x.image(), 0);
         x.change(0);
@@ -94,7 +94,7 @@ public final class TapeTests {
     }
 
     private static void imageHoldsAll() {
-        BellTouches x = new BellTouches();
+        Counted x = new Counted();
         Due.read(x, "n5;m5.1.5.1.5.125;b145;s123;cpbs");
         x.call(11, 1);
         x.pattern(1, 1);
@@ -135,7 +135,7 @@ public final class TapeTests {
     }
 
     private static void count() {
-        BellTouches x = new BellTouches();
+        Counted x = new Counted();
         due.is(31, "count(-1)", x.count(-1), -2);
         due.is(31, "count(4)", x.count(4), -2);
         x.see(0, 1, 1);
@@ -154,7 +154,7 @@ public final class TapeTests {
     }
 
     private static void tape() {
-        BellTouches x = new BellTouches();
+        Counted x = new Counted();
         due.is(32, "tape(-1, 0, 1)", x.tape(-1, 0, 1), -1);
         due.is(32, "tape(6, 9, -1)", x.tape(6, 9, -1), -1);
         due.is(32, "tape(0, -2, 1)", x.tape(0, -2, 1), -2);
@@ -185,7 +185,7 @@ public final class TapeTests {
     }
 
     private static void item() {
-        BellTouches x = new BellTouches();
+        Counted x = new Counted();
         long v = 0x8123456789abcdefL;
         long[] kept = {(byte) v, (short) v, (int) v, v, 1};
         due.is(33, "item(-1, 0, 0)", x.item(-1, 0, 0), -1);
@@ -214,7 +214,7 @@ public final class TapeTests {
     }
 
     private static void peek() {
-        BellTouches x = new BellTouches();
+        Counted x = new Counted();
         due.is(34, "peek(-1, 0)", x.peek(-1, 0), NO);
         due.is(34, "peek(6, 0)", x.peek(6, 0), NO);
         due.is(34, "peek(0, 0)", x.peek(0, 0), NO);
@@ -227,14 +227,14 @@ public final class TapeTests {
         due.is(34, "peek(0, 0)", x.peek(0, 0), Long.MAX_VALUE);
     }
 
-    private static void items(BellTouches x, int tape, int... items) {
+    private static void items(Counted x, int tape, int... items) {
         for (int i = 0; i < items.length; i++) {
             due.is(35, "peek(" + tape + ", " + i + ")", x.peek(tape, i), items[i]);
         }
     }
 
     private static void shift() {
-        BellTouches x = new BellTouches();
+        Counted x = new Counted();
         for (int sort = 0; sort <= 4; sort++) {
             x.tape(0, sort, 4);
             x.tape(1, sort, 3);
@@ -250,7 +250,7 @@ public final class TapeTests {
     }
 
     private static void shiftOverItself() {
-        BellTouches x = new BellTouches();
+        Counted x = new Counted();
         x.tape(3, 2, 5);
         fill(x, 3, 0, 1, 2, 3, 4, 5);
         due.is(35, "shift on", x.shift(3, 0, 3, 1, 4), 4);
@@ -262,7 +262,7 @@ public final class TapeTests {
     }
 
     private static void shiftRefused() {
-        BellTouches x = new BellTouches();
+        Counted x = new Counted();
         due.is(35, "shift(-1, ..)", x.shift(-1, 0, 0, 0, 0), -1);
         due.is(35, "shift(.., 6, ..)", x.shift(0, 0, 6, 0, 0), -1);
         due.is(35, "both hold nothing", x.shift(0, 0, 1, 0, -1), -11);

@@ -18,13 +18,13 @@ public final class TextTests {
     }
 
     private static void fault(String text, int place) {
-        BellTouches x = new BellTouches();
+        Counted x = new Counted();
         due.is(9, "read of " + text, Due.read(x, text), -10 - place);
         due.is(9, "count(3) behind it", x.count(3), 0);
     }
 
     private static void reads(String text, int done) {
-        due.is(9, "read of " + text, Due.read(new BellTouches(), text), done);
+        due.is(9, "read of " + text, Due.read(new Counted(), text), done);
     }
 
     private static void faults() {
@@ -89,7 +89,7 @@ public final class TextTests {
     }
 
     private static void faultChangesNothing() {
-        BellTouches x = new BellTouches();
+        Counted x = new Counted();
         x.change(33);
         x.calls(1, 63);
         String before = Due.all(x);
@@ -98,7 +98,7 @@ public final class TextTests {
     }
 
     private static void clausesDone() {
-        BellTouches x = new BellTouches();
+        Counted x = new Counted();
         due.is(9, "read of all clauses", Due.read(x, "n8;mx18x18x18x12;b14;s1234;cpbs"), 5);
         due.is(9, "told(0)", x.told(0), 8);
         due.is(9, "told(1)", x.told(1), 8);
@@ -126,7 +126,7 @@ public final class TextTests {
     }
 
     private static void clausesRefused() {
-        BellTouches x = new BellTouches();
+        Counted x = new Counted();
         x.change(33);
         x.calls(1, 12);
         x.calls(2, 15);
@@ -146,7 +146,7 @@ public final class TextTests {
     }
 
     private static void theClauseOfBells() {
-        BellTouches x = new BellTouches();
+        Counted x = new Counted();
         x.change(0);
         x.calls(1, 0);
         x.call(3, 1);
@@ -167,7 +167,7 @@ public final class TextTests {
     }
 
     private static void theClauseOfCalls() {
-        BellTouches x = new BellTouches();
+        Counted x = new Counted();
         due.is(9, "read", Due.read(x, "csbpsbpsbpsbs"), 1);
         due.is(9, "told(2)", x.told(2), 12);
         due.is(9, "of(3, 11)", x.of(3, 11), 2);
@@ -193,7 +193,7 @@ public final class TextTests {
 
     /** Nothing of a text is left for the next one, with a fault or without. */
     private static void textAfterText() {
-        BellTouches x = new BellTouches();
+        Counted x = new Counted();
         for (int i = 0; i < 12; i++) {
             due.is(9, "read of two clauses", Due.read(x, "csbpsbpsbpsbp;bx"), 2);
             due.is(9, "of(3, 10)", x.of(3, 10), 1);

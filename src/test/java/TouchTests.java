@@ -18,7 +18,7 @@ public final class TouchTests {
     }
 
     private static void of() {
-        BellTouches x = new BellTouches();
+        Counted x = new Counted();
         Due.read(x, MINOR + ";cpbs");
         due.is(10, "of(0, 0)", x.of(0, 0), 0);
         due.is(10, "of(0, 11)", x.of(0, 11), 3);
@@ -40,14 +40,14 @@ public final class TouchTests {
         due.is(10, "of(2, 0)", x.of(2, 0), -5);
     }
 
-    private static void tells(BellTouches x, int... told) {
+    private static void tells(Counted x, int... told) {
         for (int what = 0; what < told.length; what++) {
             due.is(11, "told(" + what + ")", x.told(what), told[what]);
         }
     }
 
     private static void told() {
-        BellTouches x = new BellTouches();
+        Counted x = new Counted();
         due.is(11, "told(-1)", x.told(-1), -1);
         due.is(11, "told(8)", x.told(8), -1);
         x.leads(3);
@@ -65,7 +65,7 @@ public final class TouchTests {
     }
 
     private static void roundAndFalse() {
-        BellTouches x = new BellTouches();
+        Counted x = new Counted();
         Due.read(x, MINIMUS + ";cpppp");
         tells(x, 4, 8, 4, 32, 24, 24, 0, 3);
         x.leads(6);
@@ -82,7 +82,7 @@ public final class TouchTests {
     }
 
     private static void falseAtTheEnd() {
-        BellTouches x = new BellTouches();
+        Counted x = new Counted();
         Due.read(x, "n4;mx14.14");
         tells(x, 4, 3, 1, 3, -5, 3, 0, 2);
         due.is(14, "same(3)", x.same(3), 1);
@@ -91,7 +91,7 @@ public final class TouchTests {
     }
 
     private static void longest() {
-        BellTouches x = new BellTouches();
+        Counted x = new Counted();
         Due.read(x, "n8;mx18x18x18x18x18x18x18x12;b14;cbpppppbppppp");
         tells(x, 8, 16, 12, 192, -5, -5, 0, 7);
         due.is(14, "same(192)", x.same(192), 192);
@@ -105,7 +105,7 @@ public final class TouchTests {
     }
 
     private static void courses() {
-        BellTouches x = new BellTouches();
+        Counted x = new Counted();
         Due.read(x, "n8;mx18x18x18x18x18x18x18x12");
         tells(x, 8, 16, 1, 16, -5, -5, 0, 7);
         Due.read(x, "n8;mx18");
@@ -122,7 +122,7 @@ public final class TouchTests {
     }
 
     private static void rowsAsked() {
-        BellTouches x = new BellTouches();
+        Counted x = new Counted();
         Due.read(x, MINOR);
         due.holds("12: row 0", Due.row(x, 0).equals("123456"));
         due.holds("12: row 1", Due.row(x, 1).equals("214365"));
@@ -153,7 +153,7 @@ public final class TouchTests {
     }
 
     private static void same() {
-        BellTouches x = new BellTouches();
+        Counted x = new Counted();
         Due.read(x, MINIMUS + ";cpppppp");
         due.is(14, "same(0)", x.same(0), 0);
         due.is(14, "same(23)", x.same(23), 23);
@@ -166,9 +166,9 @@ public final class TouchTests {
     }
 
     private static void good() {
-        BellTouches x = new BellTouches();
         int[] goodOnes = {5, 8, 13, 21, 34};
         for (int n = 4; n <= 8; n++) {
+            Counted x = new Counted();
             x.bells(n);
             int count = 0;
             for (int places = 0; places < 1 << n; places++) {
@@ -180,6 +180,7 @@ public final class TouchTests {
             due.is(15, "good(0)", x.good(0), n % 2 == 0 ? 1 : 0);
             due.is(15, "good(all)", x.good((1 << n) - 1), 1);
         }
+        Counted x = new Counted();
         x.bells(4);
         int[] of4 = {0, 3, 9, 12, 15};
         for (int places : of4) {
