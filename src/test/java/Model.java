@@ -358,9 +358,26 @@ final class Model {
 
     int told(int what) {
         List<int[]> rows = rows(s);
-        int[] told = {s.n, s.method.size(), s.leads, rows.size() - 1, round(rows), falseRow(rows),
-                isTrue(rows) ? 1 : 0, course(s)};
-        return in(what, 0, 7) ? told[what] : -1;
+        switch (what) {
+            case 0:
+                return s.n;
+            case 1:
+                return s.method.size();
+            case 2:
+                return s.leads;
+            case 3:
+                return rows.size() - 1;
+            case 4:
+                return round(rows);
+            case 5:
+                return falseRow(rows);
+            case 6:
+                return isTrue(rows) ? 1 : 0;
+            case 7:
+                return course(s);
+            default:
+                return -1;
+        }
     }
 
     int at(int row, int place) {

@@ -40,6 +40,20 @@ final class Views {
         return all.toString();
     }
 
+    /** Asks all that rings THE TOUCH, or another one. */
+    static void ask(Counted x) {
+        for (int what = 0; what <= 7; what++) {
+            x.told(what);
+        }
+        x.same(x.told(3));
+        x.music(2);
+        x.least(2, 0);
+        x.fits(0);
+        x.after(1);
+        x.looked();
+        x.mean(0);
+    }
+
     private static void look(Counted x, int side, StringBuilder all) {
         switch (side) {
             case 0:
