@@ -15,6 +15,7 @@ public final class AskedAheadTests {
         byHandShows();
         tapesShow();
         touchAfterTouch();
+        manyLongTouches();
         textAfterText();
         askedOrNot();
         due.end("AskedAheadTests");
@@ -205,6 +206,27 @@ public final class AskedAheadTests {
                 x.reads(text);
                 asFresh(text, x, read(text));
             }
+        }
+    }
+
+    /** Promises 4, 5, 11, 14: as long touches as there may be, one behind the other, by always other calls. */
+    private static void manyLongTouches() {
+        String method = "n8;mx18x18x18x18x18x18x18x12;b14;s1234;cpppppppppppp";
+        Counted x = read(method);
+        int[] calls = new int[12];
+        for (int i = 0; i < 80; i++) {
+            int lead = 5 * i % 12;
+            calls[lead] = (calls[lead] + 1 + i % 2) % 3;
+            x.call(lead, calls[lead]);
+            Counted fresh = read(method);
+            for (int other = 0; other <= 11; other++) {
+                fresh.call(other, calls[other]);
+            }
+            String name = "touch " + i;
+            due.is(11, name + ": ROUND", x.told(4), fresh.told(4));
+            due.is(11, name + ": FALSE", x.told(5), fresh.told(5));
+            due.is(14, name + ": same(192)", x.same(192), fresh.same(192));
+            due.is(17, name + ": least(4, 0)", x.least(4, 0), fresh.least(4, 0));
         }
     }
 
